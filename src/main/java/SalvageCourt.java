@@ -785,7 +785,7 @@ public final class SalvageCourt {
             fault = 0;
             skipBlanks();
             // A clause without a fault takes a byte at least, so there are no more than bytes.
-            for (int clause = 0; clause < MOST_BYTES && place < tape.length; clause++) {
+            for (int i = 0; i < MOST_BYTES && place < tape.length && fault == 0; i++) {
                 readClause(law);
                 skipBlanks();
             }
