@@ -40,7 +40,6 @@ public final class SalvageCourt {
     private final Goods goods = new Goods();
     private final Cases cases = new Cases();
     private final Tape tape = new Tape();
-    private final LawReader reader = new LawReader(tape);
     private final Law[] laws = new Law[MOST_LAWS];
     private final Times lawTimes = new Times(MOST_LAWS);
     private final Crew sheet = new Crew();
@@ -159,7 +158,7 @@ public final class SalvageCourt {
         if (lawCount >= MOST_LAWS || !isDay(day)) {
             return NONE;
         }
-        int fault = reader.readInto(laws[lawCount]);
+        int fault = tape.readInto(laws[lawCount]);
         tape.length = 0;
         if (fault != 0) {
             return -2 - fault;
@@ -218,7 +217,8 @@ public final class SalvageCourt {
         Law law = laws[number];
         latest.law = number;
         latest.likeCount = cases.findLike(law, suitMarks, known, day, latest.likes);
-        latest.rate = law.rateFor(cases, latest.likes, latest.likeCount, suitLives);
+        cases.sortAwards(latest.likes, latest.likeCount, latest.awards);
+        latest.rate = law.rateOf(latest.awards, latest.likeCount, suitLives);
         latest.saved = goods.worthOfAll(known, day);
         latest.weighShips(ships, shipCount, tale);
         latest.partAmongShips();
@@ -418,23 +418,18 @@ public final class SalvageCourt {
             return true;
         }
 
+        /** Any way from x to y may now go over a and b. */
         private void limit(int a, int b, int bound) {
             if (bound >= most[a * THINGS + b]) {
                 return;
             }
             for (int x = 0; x < THINGS; x++) {
                 int head = most[x * THINGS + a];
-                if (head != OPEN) {
-                    limitRow(x * THINGS, head + bound, b * THINGS);
-                }
-            }
-        }
-
-        private void limitRow(int row, int toB, int rowOfB) {
-            for (int y = 0; y < THINGS; y++) {
-                int tail = most[rowOfB + y];
-                if (tail != OPEN && toB + tail < most[row + y]) {
-                    most[row + y] = toB + tail;
+                for (int y = 0; y < THINGS && head != OPEN; y++) {
+                    int tail = most[b * THINGS + y];
+                    if (tail != OPEN && head + bound + tail < most[x * THINGS + y]) {
+                        most[x * THINGS + y] = head + bound + tail;
+                    }
                 }
             }
         }
@@ -664,17 +659,16 @@ public final class SalvageCourt {
             }
             return found;
         }
-    }
 
-    /** The bytes that a law will be made of. */
-    private static final class Tape {
-        private final byte[] bytes = new byte[MOST_BYTES];
-        private int length;
-
-        void append(int word) {
-            for (int shift = 24; shift >= 0 && length < MOST_BYTES; shift -= 8) {
-                bytes[length] = (byte) (word >>> shift);
-                length++;
+        void sortAwards(int[] numbers, int count, int[] row) {
+            for (int i = 0; i < count && i < row.length; i++) {
+                int award = awards[numbers[i]];
+                int place = i;
+                while (place > 0 && row[place - 1] > award) {
+                    row[place] = row[place - 1];
+                    place--;
+                }
+                row[place] = award;
             }
         }
     }
@@ -687,7 +681,6 @@ public final class SalvageCourt {
         private static final int ELSE_WITHOUT = 100;
 
         private final int[] weights = new int[MARKS];
-        private final int[] sorted = new int[MOST_CASES];
         private int like;
         private int give;
         private int otherwise;
@@ -717,42 +710,35 @@ public final class SalvageCourt {
             return sum;
         }
 
-        int rateFor(Cases cases, int[] likes, int likeCount, int lives) {
-            int rate = likeCount <= 0 ? otherwise : givenOf(cases, likes, likeCount);
+        int rateOf(int[] sortedAwards, int count, int lives) {
+            int rate = count <= 0 ? otherwise : givenOf(sortedAwards, count);
             return Math.min(THOUSAND, rate + life * lives);
         }
 
-        private int givenOf(Cases cases, int[] likes, int likeCount) {
-            int sum = 0;
-            for (int i = 0; i < likeCount; i++) {
-                int award = cases.awards[likes[i]];
-                sortIn(award, i);
-                sum += award;
-            }
+        private int givenOf(int[] sortedAwards, int count) {
             switch (give) {
                 case LEAST:
-                    return sorted[0];
+                    return sortedAwards[0];
                 case MIDDLE:
-                    return sorted[(likeCount - 1) / 2];
+                    return sortedAwards[(count - 1) / 2];
                 case GREATEST:
-                    return sorted[likeCount - 1];
+                    return sortedAwards[count - 1];
                 default:
-                    return sum / likeCount;
+                    return mean(sortedAwards, count);
             }
         }
 
-        private void sortIn(int award, int held) {
-            int place = held;
-            while (place > 0 && sorted[place - 1] > award) {
-                sorted[place] = sorted[place - 1];
-                place--;
+        private static int mean(int[] numbers, int count) {
+            int sum = 0;
+            for (int i = 0; i < count; i++) {
+                sum += numbers[i];
             }
-            sorted[place] = award;
+            return count > 0 ? sum / count : 0;
         }
     }
 
-    /** Reads a law off the tape; the first fault met is the one that counts. */
-    private static final class LawReader {
+    /** The tape, and the reading of a law off it: the first fault met is the one that counts. */
+    private static final class Tape {
         // A blank behind each word marks where it ends; a word's number is its place in the row.
         private static final String CLAUSES = "weigh like give else life late ";
         private static final String MARK_NAMES = "danger skill labour weather worth ";
@@ -767,14 +753,18 @@ public final class SalvageCourt {
         private static final int CLAUSE_KINDS = 6;
         private static final int MOST_DIGITS = 4;
 
-        private final Tape tape;
+        private final byte[] bytes = new byte[MOST_BYTES];
+        private int length;
         private int place;
         private int wordPlace;
         private int told;
         private int fault;
 
-        LawReader(Tape tape) {
-            this.tape = tape;
+        void append(int word) {
+            for (int shift = 24; shift >= 0 && length < MOST_BYTES; shift -= 8) {
+                bytes[length] = (byte) (word >>> shift);
+                length++;
+            }
         }
 
         /** The fault, 0 without one. */
@@ -785,12 +775,12 @@ public final class SalvageCourt {
             fault = 0;
             skipBlanks();
             // A clause without a fault takes a byte at least, so there are no more than bytes.
-            for (int i = 0; i < MOST_BYTES && place < tape.length && fault == 0; i++) {
+            for (int i = 0; i < MOST_BYTES && place < length && fault == 0; i++) {
                 readClause(law);
                 skipBlanks();
             }
             if ((told & (1 << GIVE)) == 0) {
-                refuse(4, tape.length);
+                refuse(4, length);
             }
             return fault;
         }
@@ -850,7 +840,7 @@ public final class SalvageCourt {
         private int readWord(String words) {
             skipBlanks();
             wordPlace = place;
-            while (place < tape.length && isBetween(tape.bytes[place], 'a', 'z')) {
+            while (place < length && isBetween(bytes[place], 'a', 'z')) {
                 place++;
             }
             int number = numberOfWord(words);
@@ -867,7 +857,7 @@ public final class SalvageCourt {
             for (int i = 0; i < words.length(); i++) {
                 char sign = words.charAt(i);
                 if (sign != ' ') {
-                    same = same && at < place && tape.bytes[at] == sign;
+                    same = same && at < place && bytes[at] == sign;
                     at++;
                 } else if (same && at == place) {
                     return number;
@@ -884,10 +874,10 @@ public final class SalvageCourt {
             skipBlanks();
             int start = place;
             int number = 0;
-            while (place < tape.length && isBetween(tape.bytes[place], '0', '9')) {
+            while (place < length && isBetween(bytes[place], '0', '9')) {
                 // Digits too many make a fault whatever they are; left out, they can't run over.
                 if (place - start < MOST_DIGITS) {
-                    number = number * 10 + tape.bytes[place] - '0';
+                    number = number * 10 + bytes[place] - '0';
                 }
                 place++;
             }
@@ -901,7 +891,7 @@ public final class SalvageCourt {
 
         private void readSemicolon() {
             skipBlanks();
-            if (place < tape.length && tape.bytes[place] == ';') {
+            if (place < length && bytes[place] == ';') {
                 place++;
             } else {
                 refuse(1, place);
@@ -909,7 +899,7 @@ public final class SalvageCourt {
         }
 
         private void skipBlanks() {
-            while (place < tape.length && tape.bytes[place] == ' ') {
+            while (place < length && bytes[place] == ' ') {
                 place++;
             }
         }
@@ -1008,6 +998,7 @@ public final class SalvageCourt {
     /** The latest judgement, held as it was then whatever is told later. */
     private static final class Judgement {
         private final int[] likes = new int[MOST_CASES];
+        private final int[] awards = new int[MOST_CASES];
         private final Part[] parts = new Part[MOST_SHIPS];
         private int law = NONE;
         private int likeCount;

@@ -7,6 +7,7 @@ final class CaseTest {
         suitHasBounds();
         eachMarkHasItsWeight();
         differencesCountBothWays();
+        likeIsNothingWithout();
         ratesOfAnOddNumber();
         ratesOfAnEvenNumber();
         withoutLikeOnes();
@@ -106,6 +107,16 @@ final class CaseTest {
         Due.tellLaw(y, "weigh danger 99;weigh labour 1;weigh worth 20;like 140;give least;", 0);
         y.judge(0, 0);
         Due.due("P19 99 + 2 + 40 is beyond", y.judged(1), 0);
+    }
+
+    private static void likeIsNothingWithout() {
+        SalvageCourt x = new SalvageCourt();
+        x.earlier(1, 7, 0);
+        x.earlier(10, 8, 0);
+        Due.tellLaw(x, "weigh worth 1;give mean;", 0);
+        x.judge(0, 0);
+        Due.due("P19 the distance is 1, and 0 without weight", x.judged(1), 1);
+        Due.due("P20 the one without", x.like(0), 1);
     }
 
     private static long rate(String give, int... awards) {

@@ -13,6 +13,7 @@ final class LawTest {
         faultsEmptyTheTape();
         sixLawsAtMost();
         longestText();
+        bytesBehindTheEndAreGone();
         Due.finish();
     }
 
@@ -221,5 +222,26 @@ final class LawTest {
         fault(text + ";", 1, 299);
         fault(" ".repeat(300), 4, 300);
         fault("give mean" + " ".repeat(291), 1, 300);
+    }
+
+    private static void cut(String text, int n, int due) {
+        SalvageCourt x = new SalvageCourt();
+        Due.put(x, text);
+        x.end(n);
+        Due.due("P14 '" + text + "' cut to " + n, x.law(0), due);
+    }
+
+    private static void bytesBehindTheEndAreGone() {
+        cut("give means;", 9, -2 - (1 + 4 * 9));
+        cut("give mean;like 3;", 10, 0);
+        cut("give mean;;", 10, 0);
+        cut("give mean;", 9, -2 - (1 + 4 * 9));
+        cut("give mean;life 1000;", 18, -2 - (1 + 4 * 18));
+        cut("give mean;life 100;x", 19, 0);
+        cut("give mean; ;", 11, 0);
+        cut("like 3; ", 7, -2 - (4 + 4 * 7));
+        SalvageCourt x = new SalvageCourt();
+        Due.tellLaw(x, "give mean;life 7;else 900;", 0);
+        Due.due("P15 the next text is read alone", Due.tellLaw(x, "give", 0), -2 - (1 + 4 * 4));
     }
 }
