@@ -9,7 +9,9 @@ import java.util.regex.Pattern;
 
 /**
  * The document's words once more, as literally as can be and without regard to speed: what the
- * random runs of ModelTest hold the class against. It shares no way of reckoning with the class.
+ * random runs of ModelTest hold the class against. Hours, spans, quarrels and texts are reckoned in
+ * other ways than the class does; but it reads the document as the class does (NOTES.md), so it
+ * can't show that a reading is wrong.
  */
 final class Model {
     static final int NO_SPAN = Integer.MIN_VALUE;
