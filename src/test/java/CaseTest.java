@@ -13,6 +13,17 @@ final class CaseTest {
         withoutLikeOnes();
         livesAddUpToAThousand();
         overrulingIsKnownFromItsDay();
+        greatestDistance();
+        distanceJustAtLike();
+        ratesAtTheirEnds();
+        livesUpToNinetyNine();
+        elseAndLives();
+        casesFromTheirDay();
+        overruledFromTheFirstDay();
+        overruledOnTheLastDay();
+        meanOfForty();
+        middleOfEachNumber();
+        suitIsNothingAtFirst();
         Due.finish();
     }
 
@@ -180,5 +191,163 @@ final class CaseTest {
         Due.due("P19 it is not overruled yet", x.judged(1), 1);
         x.judge(8, 50);
         Due.due("P19 it is overruled", x.judged(1), 0);
+    }
+
+    private static final String ALL_WEIGHTS =
+            "weigh danger 99;weigh skill 99;weigh labour 99;weigh weather 99;weigh worth 99;give least;";
+
+    /** Five times 9 times 99. */
+    private static void greatestDistance() {
+        for (int like = 4454; like <= 4455; like++) {
+            SalvageCourt x = new SalvageCourt();
+            x.earlier(99999, 0, 0);
+            Due.tellLaw(x, ALL_WEIGHTS + "like " + like + ";", 0);
+            x.judge(0, 0);
+            Due.due("P19 like " + like, x.judged(1), like - 4454);
+            x.suit(99999, 0);
+            x.judge(0, 0);
+            Due.due("P19 no distance", x.judged(1), 1);
+        }
+    }
+
+    private static void distanceJustAtLike() {
+        for (int like = 0; like <= 9; like++) {
+            SalvageCourt x = new SalvageCourt();
+            for (int mark = 0; mark <= 9; mark++) {
+                x.earlier(mark, 0, 0);
+            }
+            Due.tellLaw(x, "weigh worth 1;give least;like " + like + ";", 0);
+            x.judge(0, 0);
+            Due.due("P19 distances up to " + like, x.judged(1), like + 1);
+            Due.due("P20 the farthest", x.like(like), like);
+            x.suit(9, 0);
+            x.judge(0, 0);
+            Due.due("P19 distances up to " + like + ", from above", x.judged(1), like + 1);
+            Due.due("P20 the farthest, from above", x.like(0), 9 - like);
+        }
+    }
+
+    private static void ratesAtTheirEnds() {
+        for (String give : new String[] {"least", "middle", "greatest", "mean"}) {
+            Due.due("P19 " + give + " of 0", rate(give, 0), 0);
+            Due.due("P19 " + give + " of 1000", rate(give, 1000), 1000);
+            Due.due("P19 " + give + " of 1000 twice", rate(give, 1000, 1000), 1000);
+        }
+        Due.due("P19 mean of 0 and 1", rate("mean", 0, 1), 0);
+        Due.due("P19 mean of 999 and 1000", rate("mean", 999, 1000), 999);
+        Due.due("P19 else 1000", rate("mean;else 1000"), 1000);
+        Due.due("P19 a case of 0 is one", rate("mean;else 1000", 0), 0);
+    }
+
+    private static long rateOfLives(String law, int lives) {
+        SalvageCourt x = new SalvageCourt();
+        Due.tellLaw(x, law, 0);
+        x.suit(0, lives);
+        x.judge(0, 0);
+        return x.judged(2);
+    }
+
+    private static void livesUpToNinetyNine() {
+        Due.due("P19 no life", rateOfLives("give mean;else 3;life 100;", 0), 3);
+        Due.due("P19 one life", rateOfLives("give mean;else 3;life 100;", 1), 103);
+        Due.due("P19 99 lives", rateOfLives("give mean;else 3;life 1;", 99), 102);
+        Due.due("P19 99 lives of 100", rateOfLives("give mean;else 1000;life 100;", 99), 1000);
+        Due.due("P19 99 lives of 0", rateOfLives("give mean;else 3;life 0;", 99), 3);
+        Due.due("P19 99 lives without life", rateOfLives("give mean;else 3;", 99), 3);
+    }
+
+    private static void elseAndLives() {
+        Due.due("P19 just below 1000", rateOfLives("give mean;else 9;life 10;", 99), 999);
+        Due.due("P19 just 1000", rateOfLives("give mean;else 10;life 10;", 99), 1000);
+        Due.due("P19 just above 1000", rateOfLives("give mean;else 11;life 10;", 99), 1000);
+        SalvageCourt x = new SalvageCourt();
+        x.earlier(0, 600, 0);
+        x.suit(0, 4);
+        Due.tellLaw(x, "give mean;life 100;", 0);
+        x.judge(0, 0);
+        Due.due("P19 lives on top of a case", x.judged(2), 1000);
+        x.suit(0, 5);
+        x.judge(0, 0);
+        Due.due("P19 lives on top of a case, not above", x.judged(2), 1000);
+    }
+
+    private static void casesFromTheirDay() {
+        for (int day : new int[] {0, 1, 4999, 5000}) {
+            SalvageCourt x = new SalvageCourt();
+            Due.tellLaw(x, "give mean;", 0);
+            x.clock(day);
+            x.earlier(0, 7, day);
+            x.judge(day, day);
+            Due.due("P19 on its day " + day, x.judged(1), 1);
+            if (day > 0) {
+                x.judge(day, day - 1);
+                Due.due("P19 the day before " + day, x.judged(1), 0);
+                x.judge(day - 1, day);
+                Due.due("P19 not known the day before " + day, x.judged(1), 0);
+            }
+        }
+    }
+
+    private static void overruledFromTheFirstDay() {
+        SalvageCourt x = new SalvageCourt();
+        Due.tellLaw(x, "give mean;", 0);
+        x.earlier(0, 7, 30);
+        x.overrule(0, 0);
+        x.judge(0, 30);
+        Due.due("P11 overruled from a day ahead of the case's", x.judged(1), 0);
+        x.judge(5000, 5000);
+        Due.due("P11 overruled for good", x.judged(1), 0);
+    }
+
+    private static void overruledOnTheLastDay() {
+        SalvageCourt x = new SalvageCourt();
+        Due.tellLaw(x, "give mean;", 0);
+        x.earlier(0, 7, 0);
+        x.clock(5000);
+        x.overrule(0, 5000);
+        x.judge(4999, 5000);
+        Due.due("P11 not known the day before", x.judged(1), 1);
+        x.judge(5000, 4999);
+        Due.due("P11 not so the day before", x.judged(1), 1);
+        x.judge(5000, 5000);
+        Due.due("P11 on the last day", x.judged(1), 0);
+        Due.due("P11 once each", x.overrule(0, 0), false);
+    }
+
+    private static void meanOfForty() {
+        SalvageCourt x = new SalvageCourt();
+        Due.tellLaw(x, "give mean;", 0);
+        for (int i = 0; i < 40; i++) {
+            x.earlier(0, i == 17 ? 999 : 1000, 0);
+        }
+        x.judge(0, 0);
+        Due.due("P19 39999 by 40", x.judged(2), 999);
+        x.overrule(17, 0);
+        x.judge(0, 0);
+        Due.due("P19 39000 by 39", x.judged(2), 1000);
+        Due.due("P20 the one behind", x.like(17), 18);
+        Due.due("P20 no 40th", x.like(39), -1);
+    }
+
+    private static void middleOfEachNumber() {
+        SalvageCourt x = new SalvageCourt();
+        Due.tellLaw(x, "give middle;", 0);
+        for (int n = 1; n <= 40; n++) {
+            // Told from the greatest down, so that what is told first is not the least.
+            x.earlier(0, 1000 - n, 0);
+            x.judge(0, 0);
+            Due.due("P19 middle of " + n, x.judged(2), 1000 - n + (n - 1) / 2);
+        }
+    }
+
+    private static void suitIsNothingAtFirst() {
+        SalvageCourt x = new SalvageCourt();
+        x.earlier(0, 7, 0);
+        x.earlier(10000, 8, 0);
+        x.earlier(1, 8, 0);
+        Due.tellLaw(x, ALL_WEIGHTS + "life 9;", 0);
+        x.judge(0, 0);
+        Due.due("P12 marks 0 at first", x.judged(1), 1);
+        Due.due("P12 lives 0 at first", x.judged(2), 7);
     }
 }

@@ -10,6 +10,10 @@ final class JudgeTest {
         givenIsRoundedDown();
         countsOfOthers();
         objectsAreApart();
+        lawsAtTheirFirstAndLastDays();
+        theSixthLaw();
+        fewerShipsAreNotKept();
+        lawsOfOneDayKnownLater();
         Due.finish();
     }
 
@@ -147,5 +151,54 @@ final class JudgeTest {
         Due.due("P1 sayings", y.count(1), 0);
         Due.due("P1 tape", y.count(7), 0);
         Due.due("P1 trust", y.trust(0, 1), 5);
+    }
+
+    private static void lawsAtTheirFirstAndLastDays() {
+        for (int day : new int[] {0, 1, 4999, 5000}) {
+            SalvageCourt x = new SalvageCourt();
+            x.clock(day);
+            Due.tellLaw(x, "give mean;", day);
+            Due.due("P18 on its day " + day, x.judge(day, day), 0);
+            Due.due("P18 on the last day", x.judge(5000, 5000), 0);
+            if (day > 0) {
+                Due.due("P18 the day before " + day, x.judge(day, day - 1), 1);
+                Due.due("P18 not known the day before " + day, x.judge(day - 1, day), 1);
+            }
+        }
+    }
+
+    private static void theSixthLaw() {
+        SalvageCourt x = new SalvageCourt();
+        for (int i = 0; i < 6; i++) {
+            Due.tellLaw(x, "give mean;else " + i + ";", 9);
+        }
+        Due.due("P19 the latest told", lawOf(x, 0, 9), 5);
+        Due.due("P19 its rate", x.judged(2), 5);
+    }
+
+    private static void fewerShipsAreNotKept() {
+        SalvageCourt x = new SalvageCourt();
+        Due.tellLaw(x, "give mean;", 0);
+        x.sheet(1, 1, 0, 0, 0);
+        x.judge(0, 0);
+        Due.due("P21 no ship yet", x.share(0, 0), -1);
+        x.ship(1, 0, 1, 0, 0, 0);
+        Due.due("P21 told behind the judgement", x.share(0, 0), -1);
+        x.judge(0, 0);
+        Due.due("P21 in the next", x.share(0, 0), 0);
+        Due.due("P22 in the next", x.hand(0, 0), 0);
+    }
+
+    /** The one told later counts of one day, but only where it is known. */
+    private static void lawsOfOneDayKnownLater() {
+        SalvageCourt x = new SalvageCourt();
+        Due.tellLaw(x, "give mean;", 50);
+        x.clock(5);
+        Due.tellLaw(x, "give mean;", 50);
+        Due.tellLaw(x, "give mean;", 49);
+        Due.due("P19 as known before", lawOf(x, 4, 50), 0);
+        Due.due("P19 as known then", lawOf(x, 5, 50), 1);
+        Due.due("P19 the day before", lawOf(x, 5, 49), 2);
+        Due.due("P18 the day before, as known before", x.judge(4, 49), 1);
     }
 }

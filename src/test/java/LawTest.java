@@ -14,6 +14,14 @@ final class LawTest {
         sixLawsAtMost();
         longestText();
         bytesBehindTheEndAreGone();
+        numbersOfOneToFourDigits();
+        numbersAtTheirEnds();
+        bytesBesideThoseThatCanBe();
+        firstBytes();
+        faultsAtTheirLastPlaces();
+        longestTextOfClauses();
+        whatIsNotTold();
+        aFaultyLawIsNone();
         Due.finish();
     }
 
@@ -243,5 +251,131 @@ final class LawTest {
         SalvageCourt x = new SalvageCourt();
         Due.tellLaw(x, "give mean;life 7;else 900;", 0);
         Due.due("P15 the next text is read alone", Due.tellLaw(x, "give", 0), -2 - (1 + 4 * 4));
+    }
+
+    private static void numbersOfOneToFourDigits() {
+        String[] clauses = {"weigh worth ", "like ", "else ", "life ", "late 0 after "};
+        for (String clause : clauses) {
+            String front = "give mean;" + clause;
+            fault(front + ";", 1, front.length());
+            for (String digits : new String[] {"7", "07", "007", "0007"}) {
+                fine(front + digits + ";");
+            }
+            fault(front + "00007;", 2, front.length());
+            fault(front + "000007;", 2, front.length());
+        }
+        fault("late after 0;give mean;", 1, 5);
+        fine("late 0000 after 0;give mean;");
+        fault("late 00000 after 0;give mean;", 2, 5);
+    }
+
+    private static void ends(String front, int greatest, String back) {
+        fine("give mean;" + front + "0" + back);
+        fine("give mean;" + front + greatest + back);
+        fault("give mean;" + front + (greatest + 1) + back, 2, 10 + front.length());
+        fault("give mean;" + front + "-1" + back, 1, 10 + front.length());
+        fault("give mean;" + front + "2147483648" + back, 2, 10 + front.length());
+        fault("give mean;" + front + "4294967296" + back, 2, 10 + front.length());
+        fault("give mean;" + front + "18446744073709551616" + back, 2, 10 + front.length());
+    }
+
+    private static void numbersAtTheirEnds() {
+        for (String mark : Model.MARKS) {
+            ends("weigh " + mark + " ", 99, ";");
+        }
+        ends("like ", 9999, ";");
+        ends("else ", 1000, ";");
+        ends("life ", 100, ";");
+        ends("late ", 1000, " after 0;");
+        ends("late 0 after ", 5000, ";");
+    }
+
+    private static void bytesBesideThoseThatCanBe() {
+        fault("give\u001fmean;", 1, 4);
+        fault("give!mean;", 1, 4);
+        fault("give\u00a0mean;", 1, 4);
+        fault("give `;", 1, 5);
+        fault("give {;", 1, 5);
+        fault("give mean`;", 1, 9);
+        fault("give mean{;", 1, 9);
+        fault("give mean:", 1, 9);
+        fault("give mean<", 1, 9);
+        fault("give mean\u00bb", 1, 9);
+        fault("like /;", 1, 5);
+        fault("like :;", 1, 5);
+        fault("like \u00b1;", 1, 5);
+        fault("like 1/;", 1, 6);
+        fault("like 1\u00b1;", 1, 6);
+        fault("give \u00edean;", 1, 5);
+    }
+
+    /** Of all bytes only a blank and the first letters of clauses can stand first. */
+    private static void firstBytes() {
+        for (int sign = 0; sign < 256; sign++) {
+            String text = (char) sign + "ive mean;";
+            if (sign == 'g') {
+                fine(text);
+            } else {
+                fault(text, 1, sign == ' ' ? 1 : 0);
+            }
+        }
+    }
+
+    private static void faultsAtTheirLastPlaces() {
+        String give = "give mean;";
+        fault(give + " ".repeat(289) + "g", 1, 299);
+        fault(give + " ".repeat(286) + "like", 1, 300);
+        fault(give + " ".repeat(282) + "like" + "0000", 1, 300);
+        fault(give + " ".repeat(281) + "like" + "10000", 2, 295);
+        fault(give + " ".repeat(286) + "give", 3, 296);
+        fault("weigh skill 1;" + give + "weigh" + " ".repeat(266) + "skill", 3, 295);
+        fault("like 1;" + " ".repeat(293), 4, 300);
+        fault(" ".repeat(290) + "like 1000;", 4, 300);
+        fault("like1;", 4, 6);
+        fault("like99999;", 2, 4);
+    }
+
+    private static void longestTextOfClauses() {
+        String text = " weigh danger 99 ; weigh skill 98 ; weigh labour 97 ; weigh weather 96 ; weigh worth 95 ; "
+                + "like 9999 ; give greatest ; else 1000 ; life 100 ; late 1000 after 5000 ;";
+        fine(text + " ".repeat(300 - text.length()));
+        fine(" ".repeat(300 - text.length()) + text);
+    }
+
+    /** A law that tells nothing but what it gives, judged with all that the other clauses could touch. */
+    private static void whatIsNotTold() {
+        SalvageCourt x = new SalvageCourt();
+        Due.tellLaw(x, "give greatest;", 0);
+        x.says(0, 0, 1, 1, 1);
+        x.value(0, 10000, 0, 0);
+        x.sheet(1, 1, 0, 0, 0);
+        x.ship(1, 0, 1, 5000, 0, 0);
+        x.suit(99999, 99);
+        x.judge(0, 0);
+        Due.due("P15 else 100, life 0", x.judged(2), 100);
+        Due.due("P15 late 0 after 0", x.judged(5), 0);
+        Due.due("P15 late 0 after 0", x.share(0, 2), 1000);
+        x.earlier(0, 3, 0);
+        x.judge(0, 0);
+        Due.due("P15 each mark 0", x.judged(1), 1);
+        Due.due("P15 life 0", x.judged(2), 3);
+        SalvageCourt y = new SalvageCourt();
+        Due.tellLaw(y, "give greatest;weigh worth 1;", 0);
+        y.earlier(1, 3, 0);
+        y.judge(0, 0);
+        Due.due("P15 like 0", y.judged(1), 0);
+    }
+
+    private static void aFaultyLawIsNone() {
+        SalvageCourt x = new SalvageCourt();
+        Due.due("P15 faulty behind its give", Due.tellLaw(x, "give mean;like", 0), -2 - (1 + 4 * 14));
+        Due.due("P18 no law", x.judge(5000, 5000), 1);
+        Due.due("P24 no law", x.count(5), 0);
+        Due.due("P24 an empty tape", x.count(7), 0);
+        Due.due("P15 nothing is left on it", x.law(0), -2 - 4);
+        Due.tellLaw(x, "give mean;else 5;", 10);
+        Due.tellLaw(x, "give mean;else 6;life 1000;", 20);
+        x.judge(0, 20);
+        Due.due("P19 the law told before", x.judged(2), 5);
     }
 }

@@ -5,6 +5,8 @@ import java.util.Random;
 final class ModelTest {
     private static final int RUNS = 400;
     private static final int CALLS = 512;
+    private static final long[] ODD_WORDS = {Long.MIN_VALUE, Long.MAX_VALUE, -1, 0, 1, 9, 10,
+        0x1111111111111111L, 0x9999999999999999L, Integer.MIN_VALUE, Integer.MAX_VALUE};
     private static final int[] ODD = {Integer.MIN_VALUE, -10001, -2, -1, 0, 1, 9, 10, 15, 16, 40, 60,
         61, 99, 100, 101, 1000, 1001, 5000, 5001, 10001, 99999, 100000, 1000001, Integer.MAX_VALUE};
 
@@ -12,6 +14,8 @@ final class ModelTest {
     private final int mode;
     private final int days;
     private final int things;
+    // One argument in so many is odd; in wild runs so many that most calls have one.
+    private final int oddness;
     private SalvageCourt court = new SalvageCourt();
     private Model model = new Model();
 
@@ -20,6 +24,7 @@ final class ModelTest {
         mode = random.nextInt(4);
         days = random.nextBoolean() ? 12 : 5000;
         things = 2 + random.nextInt(15);
+        oddness = random.nextInt(5) == 0 ? 8 : 60;
     }
 
     public static void main(String[] args) {
@@ -36,9 +41,9 @@ final class ModelTest {
 
     /** Mostly a number within bounds, now and then an odd one. */
     private int some(int least, int most) {
-        int dice = random.nextInt(60);
+        int dice = random.nextInt(oddness);
         if (dice == 0) {
-            return ODD[random.nextInt(ODD.length)];
+            return random.nextInt(10) == 0 ? random.nextInt() : ODD[random.nextInt(ODD.length)];
         }
         if (dice == 1) {
             return random.nextBoolean() ? least - 1 : most + 1;
@@ -159,6 +164,9 @@ final class ModelTest {
     }
 
     private void stepText(String where) {
+        if (random.nextInt(oddness) == 0) {
+            feedOdd(where);
+        }
         if (random.nextInt(4) != 0) {
             Due.due(where + "end", court.end(0), model.end(0));
         }
@@ -179,6 +187,16 @@ final class ModelTest {
             String tape = model.tape;
             Due.due(where + "law '" + tape + "'", court.law(day), model.law(day));
         }
+    }
+
+    private void feedOdd(String where) {
+        int[] w = new int[5];
+        for (int i = 0; i < 5; i++) {
+            w[i] = some(0x20202020, 0x7a7a7a7a);
+        }
+        Due.due(where + "feed", court.feed(w[0], w[1], w[2], w[3], w[4]), model.feed(w));
+        int day = someDay();
+        Due.due(where + "law", court.law(day), model.law(day));
     }
 
     private String blanks(int least) {
@@ -254,6 +272,9 @@ final class ModelTest {
                     long weight = k < hands && random.nextInt(500) != 0
                             ? 1 + random.nextInt(9) : random.nextInt(16);
                     w[k / 16] |= weight << k % 16 * 4;
+                }
+                if (random.nextInt(oddness) == 0) {
+                    w[random.nextInt(4)] = ODD_WORDS[random.nextInt(ODD_WORDS.length)];
                 }
                 Due.due(where + "sheet", court.sheet(hands, w[0], w[1], w[2], w[3]),
                         model.sheet(hands, w[0], w[1], w[2], w[3]));

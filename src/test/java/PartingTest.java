@@ -18,6 +18,16 @@ final class PartingTest {
         greatestSums();
         sharesOfWrongArguments();
         judgementStandsWhateverIsTold();
+        hoursAboutNothing();
+        everyHandHasItsWeight();
+        sevenCoinsLeftOver();
+        noCoinWithoutWeight();
+        nothingToGive();
+        lateAtItsEnds();
+        notMoreThanAll();
+        articlesAtTheirEnds();
+        coinsLeftToTheFirstHands();
+        aLaterSheetIsForLaterShips();
         Due.finish();
     }
 
@@ -305,5 +315,170 @@ final class PartingTest {
         Due.due("P19 like as it was", x.judged(1), 0);
         Due.due("P20 like as it was", x.like(0), -1);
         Due.due("P23 saved now", x.saved(0, 0, 0), 700);
+    }
+
+    private static void hoursAboutNothing() {
+        for (int hours = -1; hours <= 1; hours++) {
+            SalvageCourt x = court(100, hours, "");
+            x.ship(5000, 0, 1, 0, 0, 0);
+            x.judge(0, 0);
+            int due = Math.max(0, hours);
+            Due.due("P21 hours of " + hours, x.share(0, 0), due);
+            Due.due("P21 weight of " + hours, x.share(0, 1), 5000 * due);
+            Due.due("P21 coins of " + hours, x.share(0, 2), 100 * due);
+            Due.due("P19 given of " + hours, x.judged(4), 100 * due);
+        }
+    }
+
+    /** Weights 1 to 9 in turn; as many coins as weights, so that each hand has just its own. */
+    private static void everyHandHasItsWeight() {
+        for (int hands : new int[] {1, 15, 16, 17, 31, 32, 33, 47, 48, 49, 59, 60}) {
+            long[] words = new long[4];
+            int sum = 0;
+            for (int k = 0; k < hands; k++) {
+                words[k / 16] |= (k % 9 + 1L) << 4 * (k % 16);
+                sum += k % 9 + 1;
+            }
+            SalvageCourt x = court(sum, 1, "");
+            Due.due("P16 hands " + hands, x.sheet(hands, words[0], words[1], words[2], words[3]), true);
+            x.ship(1, 0, 1, 0, 0, 0);
+            x.judge(0, 0);
+            for (int k = 0; k < hands; k++) {
+                Due.due("P22 hand " + k + " of " + hands, x.hand(0, k), k % 9 + 1);
+            }
+            Due.due("P22 no hand behind " + hands, x.hand(0, hands), -1);
+        }
+    }
+
+    private static void sevenCoinsLeftOver() {
+        for (int sum = 0; sum <= 16; sum++) {
+            SalvageCourt x = court(sum, 1, "");
+            for (int i = 0; i < 8; i++) {
+                x.ship(3, 0, 1, 0, 0, 0);
+            }
+            x.judge(0, 0);
+            for (int i = 0; i < 8; i++) {
+                Due.due("P21 ship " + i + " of " + sum, x.share(i, 2), sum / 8 + (i < sum % 8 ? 1 : 0));
+            }
+        }
+    }
+
+    private static void noCoinWithoutWeight() {
+        SalvageCourt x = court(1, 1, "");
+        x.ship(5000, 1, 0, 0, 0, 0);
+        x.ship(1, 0, 1, 0, 0, 0);
+        x.ship(1, 0, 1, 0, 0, 0);
+        x.judge(0, 0);
+        Due.due("P21 none for no weight", x.share(0, 2), 0);
+        Due.due("P21 the coin for the first with weight", x.share(1, 2), 1);
+        Due.due("P21 none for the second", x.share(2, 2), 0);
+    }
+
+    private static void nothingToGive() {
+        SalvageCourt x = court(0, 1, "");
+        x.ship(1, 0, 1, 5000, 50, 0);
+        x.judge(0, 0);
+        Due.due("P21 a weight all the same", x.share(0, 1), 1);
+        for (int what = 2; what < 7; what++) {
+            Due.due("P21 nothing saved, what " + what, x.share(0, what), 0);
+        }
+        Due.due("P22 nothing saved", x.hand(0, 0), 0);
+        SalvageCourt y = court(1000, 1, "");
+        y.ship(1, 0, 1, 0, 0, 0);
+        y.earlier(0, 0, 0);
+        y.judge(0, 0);
+        Due.due("P19 a rate of 0", y.judged(2), 0);
+        Due.due("P19 nothing given", y.judged(4), 0);
+        Due.due("P19 saved all the same", y.judged(3), 1000);
+    }
+
+    private static long lost(int sum, String late, int claim) {
+        SalvageCourt x = court(sum, 1, late);
+        x.ship(1, 0, 1, claim, 0, 0);
+        x.judge(0, 0);
+        Due.due("P21 coins and lost ones, " + late + " " + claim, x.share(0, 2) + x.share(0, 6), sum);
+        Due.due("P19 goes back, " + late + " " + claim, x.judged(5), x.share(0, 6));
+        return x.share(0, 6);
+    }
+
+    private static void lateAtItsEnds() {
+        Due.due("P21 29 days", lost(10, "late 1000 after 0;", 29), 0);
+        Due.due("P21 30 days", lost(10, "late 1000 after 0;", 30), 10);
+        Due.due("P21 after 4970", lost(10, "late 1000 after 4970;", 5000), 10);
+        Due.due("P21 after 4971", lost(10, "late 1000 after 4971;", 5000), 0);
+        Due.due("P21 after 5000", lost(10, "late 1000 after 5000;", 5000), 0);
+        Due.due("P21 after 5000, at once", lost(10, "late 1000 after 5000;", 0), 0);
+        Due.due("P21 just after", lost(10, "late 1000 after 100;", 100), 0);
+        Due.due("P21 late 0", lost(10, "late 0 after 0;", 5000), 0);
+        Due.due("P21 59 days", lost(1000, "late 1 after 0;", 59), 1);
+        Due.due("P21 60 days", lost(1000, "late 1 after 0;", 60), 2);
+        Due.due("P21 166 times 30 days", lost(1000, "late 1 after 0;", 5000), 166);
+    }
+
+    private static void notMoreThanAll() {
+        Due.due("P21 999 thousandths", lost(1000, "late 333 after 0;", 90), 999);
+        Due.due("P21 1000 thousandths", lost(1000, "late 250 after 0;", 120), 1000);
+        Due.due("P21 1002 thousandths", lost(1000, "late 334 after 0;", 90), 1000);
+        Due.due("P21 166000 thousandths", lost(1000000, "late 1000 after 0;", 5000), 1000000);
+        Due.due("P21 999 thousandths of a coin", lost(1, "late 333 after 0;", 90), 0);
+        Due.due("P21 1000 thousandths of a coin", lost(1, "late 500 after 0;", 60), 1);
+        Due.due("P21 rounded once, not each time", lost(15, "late 100 after 0;", 60), 3);
+    }
+
+    private static void articles(int sum, int owner, int master, long[] due) {
+        SalvageCourt x = court(sum, 1, "");
+        x.ship(1, 0, 1, 0, owner, master);
+        x.judge(0, 0);
+        for (int what = 3; what <= 5; what++) {
+            Due.due("P21 what " + what + " of " + sum + " by " + owner + " and " + master,
+                    x.share(0, what), due[what - 3]);
+        }
+        Due.due("P22 the only hand of " + sum, x.hand(0, 0), due[2]);
+    }
+
+    private static void articlesAtTheirEnds() {
+        articles(77, 0, 0, new long[] {0, 0, 77});
+        articles(77, 100, 0, new long[] {77, 0, 0});
+        articles(77, 0, 100, new long[] {0, 77, 0});
+        articles(77, 99, 1, new long[] {76, 0, 1});
+        articles(1, 50, 50, new long[] {0, 0, 1});
+        articles(1, 99, 0, new long[] {0, 0, 1});
+        articles(100, 1, 1, new long[] {1, 1, 98});
+        articles(99, 1, 1, new long[] {0, 0, 99});
+        articles(1000000, 33, 33, new long[] {330000, 330000, 340000});
+    }
+
+    private static void coinsLeftToTheFirstHands() {
+        for (int sum = 0; sum <= 8; sum++) {
+            SalvageCourt x = court(sum, 1, "");
+            x.sheet(4, 0x9999, 0, 0, 0);
+            x.ship(1, 0, 1, 0, 0, 0);
+            x.judge(0, 0);
+            for (int k = 0; k < 4; k++) {
+                Due.due("P22 hand " + k + " of " + sum, x.hand(0, k), sum / 4 + (k < sum % 4 ? 1 : 0));
+            }
+        }
+        SalvageCourt y = court(1, 1, "");
+        y.sheet(2, 0x91, 0, 0, 0);
+        y.ship(1, 0, 1, 0, 0, 0);
+        y.judge(0, 0);
+        Due.due("P22 the first, though it weighs less", y.hand(0, 0), 1);
+        Due.due("P22 not the greater rest", y.hand(0, 1), 0);
+    }
+
+    private static void aLaterSheetIsForLaterShips() {
+        SalvageCourt x = court(30, 1, "");
+        x.sheet(3, 0x111, 0, 0, 0);
+        x.ship(1, 0, 1, 0, 0, 0);
+        x.judge(0, 0);
+        x.sheet(1, 1, 0, 0, 0);
+        Due.due("P22 as judged", x.hand(0, 2), 10);
+        x.judge(0, 0);
+        Due.due("P22 the ship keeps its sheet", x.hand(0, 2), 10);
+        x.ship(2, 0, 1, 0, 0, 0);
+        x.judge(0, 0);
+        Due.due("P22 the ship told first", x.hand(0, 2), 3);
+        Due.due("P22 the ship told later", x.hand(1, 0), 20);
+        Due.due("P22 has one hand", x.hand(1, 1), -1);
     }
 }

@@ -16,6 +16,14 @@ final class TaleTest {
         quarrelLeavesOneOfTwoCircles();
         quarrelIsBlindToTrust();
         longestSpan();
+        everyTrustHasItsPlace();
+        trustBetweenIsNoTie();
+        rangesThatJustMeet();
+        circlesThatJustClose();
+        hoursFarthestApart();
+        quarrelOfOneHour();
+        fortyThatAreTrueTogether();
+        fortyOfWhichTheLastQuarrels();
         Due.finish();
     }
 
@@ -204,5 +212,121 @@ final class TaleTest {
         x.says(1, 15, 0, -10000, 10000);
         Due.due("P7 all sixteen", x.quarrel(), 16);
         Due.due("P8 the sixteenth", x.quarrels(15), 15);
+    }
+
+    private static void everyTrustHasItsPlace() {
+        for (int trust = 1; trust <= 9; trust++) {
+            SalvageCourt x = new SalvageCourt();
+            x.says(0, 0, 1, 1, 1);
+            x.says(5, 0, 1, 2, 2);
+            x.trust(0, trust - 1);
+            x.trust(5, trust);
+            Due.due("P5 trust " + (trust - 1) + " is below " + trust, x.believed(0), 0);
+            Due.due("P5 trust " + trust + " is above " + (trust - 1), x.believed(1), 1);
+            x.trust(0, trust);
+            Due.due("P5 of one trust " + trust + ", the first", x.believed(0), 1);
+            Due.due("P5 of one trust " + trust + ", the second", x.believed(1), 0);
+        }
+    }
+
+    private static void trustBetweenIsNoTie() {
+        SalvageCourt x = new SalvageCourt();
+        x.says(3, 0, 1, 1, 1);
+        x.says(4, 0, 1, 2, 2);
+        x.trust(4, 4);
+        Due.due("P3 5 at first is above 4", x.believed(0), 1);
+        x.trust(4, 5);
+        Due.due("P3 5 at first is 5", x.believed(0), 1);
+        x.trust(4, 6);
+        Due.due("P3 5 at first is below 6", x.believed(0), 0);
+        Due.due("P24 one of them", x.count(2), 1);
+    }
+
+    /** Thing 1 is 0 to 5 hours behind thing 0; then another range is told. */
+    private static void besides(int a, int b, int low, int high, boolean meets) {
+        SalvageCourt x = new SalvageCourt();
+        x.says(0, 0, 1, 0, 5);
+        x.says(0, a, b, low, high);
+        String name = a + " " + b + " from " + low + " to " + high;
+        Due.due("P5 " + name, x.believed(1), meets ? 1 : 0);
+        Due.due("P7 " + name, x.quarrel(), meets ? 0 : 2);
+        Due.due("P24 " + name, x.count(2), meets ? 2 : 1);
+    }
+
+    private static void rangesThatJustMeet() {
+        besides(0, 1, 5, 9, true);
+        besides(0, 1, 6, 9, false);
+        besides(0, 1, -4, 0, true);
+        besides(0, 1, -4, -1, false);
+        besides(1, 0, -9, -5, true);
+        besides(1, 0, -9, -6, false);
+        besides(1, 0, 0, 4, true);
+        besides(1, 0, 1, 4, false);
+        besides(0, 1, 5, 5, true);
+        besides(0, 1, -10000, 10000, true);
+    }
+
+    private static void circlesThatJustClose() {
+        for (int low = -2; low <= -1; low++) {
+            SalvageCourt x = new SalvageCourt();
+            x.says(0, 0, 1, 1, 5);
+            x.says(0, 1, 2, 1, 5);
+            x.says(0, 2, 0, low, 9);
+            boolean closes = low == -2;
+            Due.due("P5 back by " + low, x.believed(2), closes ? 1 : 0);
+            Due.due("P7 back by " + low, x.quarrel(), closes ? 0 : 3);
+            Due.due("P6 back by " + low, x.spans(0, 2, 1), closes ? 2 : 10);
+        }
+    }
+
+    private static void hoursFarthestApart() {
+        SalvageCourt x = new SalvageCourt();
+        x.says(0, 0, 1, 10000, 10000);
+        x.says(0, 0, 1, -10000, 9999);
+        x.says(0, 1, 0, -10000, 10000);
+        x.says(0, 1, 0, -9999, 10000);
+        Due.due("P5 an hour less", x.believed(1), 0);
+        Due.due("P5 just so far back", x.believed(2), 1);
+        Due.due("P5 an hour less back", x.believed(3), 0);
+        Due.due("P6 least", x.spans(0, 1, 0), 10000);
+        Due.due("P6 greatest", x.spans(0, 1, 1), 10000);
+        Due.due("P6 back", x.spans(1, 0, 0), -10000);
+    }
+
+    private static void quarrelOfOneHour() {
+        SalvageCourt x = new SalvageCourt();
+        x.says(0, 0, 1, 3, 3);
+        Due.due("P7 one alone can be true", x.quarrel(), 0);
+        x.says(0, 0, 1, 3, 3);
+        Due.due("P7 the same twice", x.quarrel(), 0);
+        x.says(0, 0, 1, 4, 4);
+        Due.due("P7 an hour besides", x.quarrel(), 2);
+        Due.due("P8 the first of the same", x.quarrels(0), 0);
+        Due.due("P8 the other", x.quarrels(1), 2);
+    }
+
+    private static void fortyThatAreTrueTogether() {
+        SalvageCourt x = new SalvageCourt();
+        for (int i = 0; i < 40; i++) {
+            x.says(i % 6, i % 16, (i + 1) % 16, i % 16 == 15 ? -10000 : 0, 10000);
+        }
+        Due.due("P24 all are believed", x.count(2), 40);
+        Due.due("P5 the last", x.believed(39), 1);
+        Due.due("P7 no quarrel", x.quarrel(), 0);
+        Due.due("P8 no quarrel", x.quarrels(0), -1);
+    }
+
+    private static void fortyOfWhichTheLastQuarrels() {
+        SalvageCourt x = new SalvageCourt();
+        for (int i = 0; i < 39; i++) {
+            x.says(0, 2, 3, 0, i);
+        }
+        x.says(0, 2, 3, -1, -1);
+        Due.due("P7 the last with the first", x.quarrel(), 2);
+        Due.due("P8 the first", x.quarrels(0), 0);
+        Due.due("P8 the last", x.quarrels(1), 39);
+        Due.due("P24 all but the last", x.count(2), 39);
+        x.trust(1, 9);
+        Due.due("P24 trust of a log that says nothing", x.count(2), 39);
     }
 }

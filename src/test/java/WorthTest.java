@@ -8,6 +8,12 @@ final class WorthTest {
         latestToldCountsOfOneDay();
         whatIsKnownLaterIsNotKnownBefore();
         savedOfWrongArguments();
+        repairsUpToTheWorth();
+        greatestWorth();
+        knownFromTheClocksDay();
+        soFromItsDay();
+        goodsAreApart();
+        allSavedIsTheSum();
         Due.finish();
     }
 
@@ -92,5 +98,80 @@ final class WorthTest {
         Due.due("P23 known 5001", x.saved(0, 5001, 0), -1);
         Due.due("P23 day -1", x.saved(0, 0, -1), -1);
         Due.due("P23 day 5001", x.saved(0, 0, 5001), -1);
+    }
+
+    private static int worth(int coins, int repairs) {
+        SalvageCourt x = new SalvageCourt();
+        x.value(5, coins, repairs, 0);
+        return x.saved(5, 0, 0);
+    }
+
+    private static void repairsUpToTheWorth() {
+        Due.due("P23 a coin more than repairs", worth(101, 100), 1);
+        Due.due("P23 as many as repairs", worth(100, 100), 0);
+        Due.due("P23 a coin less than repairs", worth(99, 100), 0);
+        Due.due("P23 repairs alone", worth(0, 1000000), 0);
+        Due.due("P23 neither", worth(0, 0), 0);
+    }
+
+    private static void greatestWorth() {
+        Due.due("P23 all of it", worth(1000000, 0), 1000000);
+        Due.due("P23 all but one", worth(1000000, 1), 999999);
+        Due.due("P23 one", worth(1000000, 999999), 1);
+        Due.due("P23 none of it", worth(1000000, 1000000), 0);
+    }
+
+    private static void knownFromTheClocksDay() {
+        for (int today : new int[] {0, 1, 4999, 5000}) {
+            SalvageCourt x = new SalvageCourt();
+            x.clock(today);
+            x.value(0, 8, 0, 0);
+            Due.due("P23 known on " + today, x.saved(0, today, 0), 8);
+            Due.due("P23 known at last", x.saved(0, 5000, 0), 8);
+            if (today > 0) {
+                Due.due("P23 not known the day before " + today, x.saved(0, today - 1, 5000), 0);
+            }
+        }
+        SalvageCourt y = new SalvageCourt();
+        y.clock(10);
+        y.clock(9);
+        y.value(0, 8, 0, 0);
+        Due.due("P2 a refused clock doesn't tell the day", y.saved(0, 9, 0), 0);
+    }
+
+    private static void soFromItsDay() {
+        for (int day : new int[] {0, 1, 4999, 5000}) {
+            SalvageCourt x = new SalvageCourt();
+            x.value(0, 8, 0, day);
+            Due.due("P23 so on " + day, x.saved(0, 0, day), 8);
+            Due.due("P23 so at last", x.saved(0, 0, 5000), 8);
+            if (day > 0) {
+                Due.due("P23 not so the day before " + day, x.saved(0, 5000, day - 1), 0);
+            }
+        }
+    }
+
+    private static void goodsAreApart() {
+        SalvageCourt x = new SalvageCourt();
+        for (int good = 0; good < 10; good++) {
+            x.value(good, 10 + good, 0, 10 - good);
+        }
+        for (int good = 0; good < 10; good++) {
+            Due.due("P23 good " + good, x.saved(good, 0, 10), 10 + good);
+            Due.due("P23 good " + good + " the day before", x.saved(good, 0, 9 - good), 0);
+        }
+    }
+
+    private static void allSavedIsTheSum() {
+        SalvageCourt x = new SalvageCourt();
+        Due.tellLaw(x, "give mean;", 0);
+        x.judge(0, 0);
+        Due.due("P19 nothing saved", x.judged(3), 0);
+        for (int good = 0; good < 10; good++) {
+            x.value(good, 1000000, 0, 0);
+        }
+        x.value(3, 5, 9, 0);
+        x.judge(0, 0);
+        Due.due("P19 all but one, which is not below 0", x.judged(3), 9000000);
     }
 }
