@@ -14,6 +14,7 @@ final class JudgeTest {
         theSixthLaw();
         fewerShipsAreNotKept();
         lawsOfOneDayKnownLater();
+        theLastOfFiveHundredTwelveCalls();
         Due.finish();
     }
 
@@ -200,5 +201,17 @@ final class JudgeTest {
         Due.due("P19 as known then", lawOf(x, 5, 50), 1);
         Due.due("P19 the day before", lawOf(x, 5, 49), 2);
         Due.due("P18 the day before, as known before", x.judge(4, 49), 1);
+    }
+
+    /** One saying and 510 calls behind it; the last is as right as the first. */
+    private static void theLastOfFiveHundredTwelveCalls() {
+        SalvageCourt x = new SalvageCourt();
+        x.says(0, 0, 1, 3, 4);
+        for (int call = 2; call < 512; call += 3) {
+            Due.due("P3 call " + call, x.trust(0, 4 + call % 2), call == 2 ? 5 : 5 - call % 2);
+            Due.due("P6 call " + (call + 1), x.spans(0, 1, 1), 4);
+            Due.due("P7 call " + (call + 2), x.quarrel(), 0);
+        }
+        Due.due("P5 call 512", x.believed(0), 1);
     }
 }

@@ -342,9 +342,24 @@ final class LawTest {
         fine(" ".repeat(300 - text.length()) + text);
     }
 
-    /** A law that tells nothing but what it gives, judged with all that the other clauses could touch. */
     private static void whatIsNotTold() {
-        SalvageCourt x = new SalvageCourt();
+        String faulty = "weigh danger 99;weigh skill 99;weigh labour 99;weigh weather 99;weigh worth 99;"
+                + "like 9999;else 7;life 100;late 1000 after 0;";
+        for (String before : new String[] {"", faulty, faulty + "give least", faulty + "give mean;like"}) {
+            SalvageCourt x = new SalvageCourt();
+            Due.due("P15 a fault", Due.tellLaw(x, before, 0) < -1, true);
+            giveAlone(x);
+            SalvageCourt y = new SalvageCourt();
+            Due.due("P15 a fault", Due.tellLaw(y, before, 0) < -1, true);
+            Due.tellLaw(y, "give greatest;weigh worth 1;", 0);
+            y.earlier(1, 3, 0);
+            y.judge(0, 0);
+            Due.due("P15 like 0", y.judged(1), 0);
+        }
+    }
+
+    /** A law that tells nothing but what it gives, judged with all that other clauses could touch. */
+    private static void giveAlone(SalvageCourt x) {
         Due.tellLaw(x, "give greatest;", 0);
         x.says(0, 0, 1, 1, 1);
         x.value(0, 10000, 0, 0);
@@ -353,17 +368,13 @@ final class LawTest {
         x.suit(99999, 99);
         x.judge(0, 0);
         Due.due("P15 else 100, life 0", x.judged(2), 100);
-        Due.due("P15 late 0 after 0", x.judged(5), 0);
-        Due.due("P15 late 0 after 0", x.share(0, 2), 1000);
+        Due.due("P15 late 0 after 0, back", x.judged(5), 0);
+        Due.due("P15 late 0 after 0, coins", x.share(0, 2), 1000);
         x.earlier(0, 3, 0);
+        x.earlier(0, 4, 0);
         x.judge(0, 0);
-        Due.due("P15 each mark 0", x.judged(1), 1);
-        Due.due("P15 life 0", x.judged(2), 3);
-        SalvageCourt y = new SalvageCourt();
-        Due.tellLaw(y, "give greatest;weigh worth 1;", 0);
-        y.earlier(1, 3, 0);
-        y.judge(0, 0);
-        Due.due("P15 like 0", y.judged(1), 0);
+        Due.due("P15 each mark 0", x.judged(1), 2);
+        Due.due("P15 life 0, and greatest", x.judged(2), 4);
     }
 
     private static void aFaultyLawIsNone() {

@@ -28,6 +28,7 @@ final class PartingTest {
         articlesAtTheirEnds();
         coinsLeftToTheFirstHands();
         aLaterSheetIsForLaterShips();
+        judgingAgainGivesTheSame();
         Due.finish();
     }
 
@@ -480,5 +481,22 @@ final class PartingTest {
         Due.due("P22 the ship told first", x.hand(0, 2), 3);
         Due.due("P22 the ship told later", x.hand(1, 0), 20);
         Due.due("P22 has one hand", x.hand(1, 1), -1);
+    }
+
+    private static void judgingAgainGivesTheSame() {
+        SalvageCourt x = court(1001, 1, "late 100 after 0;");
+        x.sheet(3, 0x211, 0, 0, 0);
+        x.ship(1, 0, 1, 30, 10, 10);
+        x.ship(1, 0, 1, 60, 0, 50);
+        for (int i = 0; i < 3; i++) {
+            x.judge(0, 0);
+            Due.due("P19 given", x.judged(4), 1001);
+            Due.due("P19 goes back", x.judged(5), 50 + 100);
+            Due.due("P21 lost", x.share(0, 6), 50);
+            Due.due("P21 coins", x.share(0, 2), 451);
+            Due.due("P21 coins of the second", x.share(1, 2), 400);
+            Due.due("P22 coins, with one left over", x.hand(0, 0), 91);
+            Due.due("P22 coins", x.hand(1, 2), 100);
+        }
     }
 }

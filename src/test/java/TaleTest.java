@@ -24,6 +24,8 @@ final class TaleTest {
         quarrelOfOneHour();
         fortyThatAreTrueTogether();
         fortyOfWhichTheLastQuarrels();
+        quarrelStandsWhateverIsToldBehind();
+        beliefIsAnewWithEachSaying();
         Due.finish();
     }
 
@@ -328,5 +330,33 @@ final class TaleTest {
         Due.due("P24 all but the last", x.count(2), 39);
         x.trust(1, 9);
         Due.due("P24 trust of a log that says nothing", x.count(2), 39);
+    }
+
+    private static void quarrelStandsWhateverIsToldBehind() {
+        SalvageCourt x = new SalvageCourt();
+        x.says(0, 4, 5, 1, 1);
+        x.says(0, 0, 1, 1, 1);
+        x.says(0, 0, 1, 2, 2);
+        Due.due("P7 two", x.quarrel(), 2);
+        x.says(0, 0, 1, 3, 3);
+        x.says(0, 4, 5, 2, 2);
+        Due.due("P7 still two", x.quarrel(), 2);
+        Due.due("P8 the same first", x.quarrels(0), 1);
+        Due.due("P8 the same second", x.quarrels(1), 2);
+        Due.due("P8 no third", x.quarrels(2), -1);
+    }
+
+    private static void beliefIsAnewWithEachSaying() {
+        SalvageCourt x = new SalvageCourt();
+        x.trust(1, 6);
+        x.says(0, 0, 1, 1, 1);
+        Due.due("P5 believed", x.believed(0), 1);
+        x.says(1, 0, 1, 2, 2);
+        Due.due("P5 not any more", x.believed(0), 0);
+        Due.due("P6 by the one trusted", x.spans(0, 1, 0), 2);
+        Due.due("P24 one", x.count(2), 1);
+        x.trust(1, 4);
+        Due.due("P5 believed again", x.believed(0), 1);
+        Due.due("P6 by the first again", x.spans(0, 1, 0), 1);
     }
 }
